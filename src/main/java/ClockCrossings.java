@@ -523,7 +523,6 @@ public final class ClockCrossings {
             whats[n] = what;
             clocks[n] = clock;
             marked[n] = 0;
-            depths[n] = 1;
             partBits[n] = 0;
             leaves[n] = what == INPUT || what == REGISTER ? 1 << n : 0;
             addPart(n, 0, first);
@@ -607,7 +606,7 @@ public final class ClockCrossings {
         }
 
         private boolean isDirect(int n) {
-            return isNode(n) && hasBit(foreign[n], partOf(n, 0));
+            return isNode(n) && hasBit(foreign[n], parts[n * MAX_PARTS]);
         }
 
         private boolean isSafe(int n, int need) {

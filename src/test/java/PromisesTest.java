@@ -339,6 +339,20 @@ public final class PromisesTest {
         leak.ticks(1);
         dueAll("leaks: no direct crossing", values(leak), 1, 0, 0, 0, 2);
         due("leaked", leak.count(5), 1);
+        leak.keep(0);
+        leak.undo();
+        due("leaked, undone", leak.count(5), 0);
+        leak.back(0);
+        due("leaked, as kept", leak.count(5), 1);
+        tell(leak, "i0;i0;g0 1;r1 0;r1 1;a2 3;");
+        due("marked", leak.join(-1, 0), 0);
+        dueAll("all anew", counts(leak), 5, 1, 2, 0, 0, 0, 0, 0);
+        tell(leak, "i0;i0;r1 0;r1 1;r1 2;r1 3;");
+        due("no gate any more", leak.join(-1, 0), 0);
+        tell(leak, "i0;i0;r1 0;r1 1;a2 3;");
+        due("no marks any more", leak.join(-1, 0), 1);
+        due("nothing told", tell(leak, ""), 0);
+        dueAll("nothing told", counts(leak), 0, 0, 2, 0, 0, 0, 0, 0);
     }
 
     private static int[] values(ClockCrossings x) {
@@ -561,7 +575,7 @@ public final class PromisesTest {
 
     private static void promise13NoJoins() {
         String[] texts = {
-            MEETING + "g1 3;", MEETING + "e3 1;",
+            MEETING + "g1 3;", MEETING + "e3 1;", MEETING + "g1 3;g1 0;g3 0;", MEETING + "e3 1;g3 0;e2 1;",
             "i0;i0;r1 0;r1 1;r1 2;r1 3;",
             "i0;r1 0;r1 0;a1 2;",
             "i0;i2;r1 0;r1 1;a2 3;",
@@ -605,6 +619,10 @@ public final class PromisesTest {
         dueAll("period", new int[] {x.period(0), x.period(1), x.period(2), x.period(3), x.period(-1)}, 2, 9, 5, BAD, BAD);
         tell(x, "p2 1;");
         dueAll("not told: as at first", new int[] {x.period(0), x.period(1), x.period(2)}, 2, 3, 1);
+        tell(x, "p0 6;");
+        dueAll("not told: as at first", new int[] {x.period(0), x.period(1), x.period(2)}, 6, 3, 5);
+        tell(x, "");
+        dueAll("none told", new int[] {x.period(0), x.period(1), x.period(2)}, 2, 3, 5);
     }
 
     private static void promise16() {
