@@ -338,6 +338,41 @@ public final class BoundariesDoTest {
         }
     }
 
+    /** The clocks have no edge together until 6, so nothing is struck: each register is a whole edge behind its node. */
+    static void promise7WhatItsNodeWasIfThatIsKnown() {
+        ClockCrossings x = Checks.told("i0;r1 0;r1 1;r1 2;p0 2;p1 3;");
+        x.wishes(0, 1);
+        int[][] want = {{0, 0, 0, 0}, {1, 0, 0, 0}, {1, 1, 0, 0}, {1, 1, 0, 0}, {1, 1, 0, 0}, {1, 1, 1, 0}, {1, 1, 1, 0}, {1, 1, 1, 0}, {1, 1, 1, 1}};
+        for (int[] row : want) {
+            Checks.due("ticks(1)", x.ticks(1), 0);
+            Checks.dueRow("values at " + x.count(3), Checks.values(x), row);
+        }
+        Checks.dueRow("counts", Checks.counts(x), 4, 0, 2, 9, 0, 0, 0, 6);
+    }
+
+    /** SAFE is a matter of KIND alone: what a tick does is the same by each NEED, and whether one or two have the register. */
+    static void promise7IsTheSameByEachNeed() {
+        for (int need = 2; need <= 4; need++) {
+            Run run = new Run().tell("i0;r1 0;r1 1;r1 2;i1;m2 4 0;r1 5;r1 1;p0 1;p1 1;").then("needs", need).then("wishes", 0, 1);
+            ClockCrossings x = run.made();
+            Checks.due("struck: " + need, x.ticks(1), 2);
+            Checks.dueRow("values", Checks.values(x), 1, 2, 0, 0, 0, 0, 2, 0);
+            Checks.due("settled: " + need, x.ticks(1), 0);
+            Checks.dueRow("values", Checks.values(x), 1, 1, 1, 0, 0, 1, 0, 1);
+            Checks.due("at rest: " + need, x.ticks(1), 0);
+            Checks.dueRow("values", Checks.values(x), 1, 1, 1, 1, 0, 1, 1, 1);
+            Checks.due("LEAKED", x.count(5), 0);
+        }
+        for (int need = 2; need <= 4; need++) {
+            ClockCrossings x = Checks.told("i0;r1 0;r1 1;r1 2;r1 3;i1;m4 5 0;r1 6;p0 1;p1 1;");
+            x.needs(need);
+            x.wishes(0, 1);
+            Checks.dueRow("kinds", new int[] {x.register(1, 2), x.register(7, 2)}, 0, 2);
+            Checks.due("a safe and a held one are struck: " + need, x.ticks(1), 2);
+            Checks.dueRow("values", Checks.values(x), 1, 2, 0, 0, 0, 0, 0, 2);
+        }
+    }
+
     static void promise7Settles0IfThatWasUnknown() {
         ClockCrossings x = Checks.told("i0;r1 0;r2 1;r2 2;p0 1;p1 1;p2 1;");
         x.wishes(0, 1);

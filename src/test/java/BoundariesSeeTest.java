@@ -447,6 +447,19 @@ public final class BoundariesSeeTest {
         dueJoins("i0;i0;i0;r1 0;r1 1;r1 2;m3 4 5;g0 1;e1 2;e2 0;", 0);
     }
 
+    /** "These" are the NODES of R and Q: a mark of R and Q themselves leaves the join. */
+    static void promise13AMarkOfTheRegistersThemselvesIsNone() {
+        dueJoins(JOINED + "g2 3;", 1);
+        dueJoins(JOINED + "g3 2;", 1);
+        dueJoins(JOINED + "e2 3;", 1);
+        dueJoins(JOINED + "e3 2;e2 3;g2 3;g3 2;", 1);
+        dueJoins(JOINED + "e3 2;g1 0;", 0);
+        String registers = "i0;r0 0;r0 1;r1 1;r1 2;x3 4;";
+        dueJoins(registers, 1);
+        dueJoins(registers + "g3 4;e3 4;g0 1;e0 2;", 1);
+        dueJoins(registers + "g2 1;", 0);
+    }
+
     static void promise13TheLastOfSixMarksCounts() {
         dueJoins("i0;i0;r1 0;r1 1;x2 3;i2;g5 0;g5 1;e5 0;e5 1;g5 0;", 1);
         dueJoins("i0;i0;r1 0;r1 1;x2 3;i2;g5 0;g5 1;e5 0;e5 1;g5 0;e1 0;", 0);
@@ -514,6 +527,11 @@ public final class BoundariesSeeTest {
         Checks.due("the other way round", Checks.told("i0;i1;i2;a0 1;a1 2;a2 0;r2 3;r1 3;r2 3;r1 2;r1 2;p0 2;p1 4;p2 5;").risk(), 13500);
         Checks.due("times in floats", Checks.told("i0;i1;i2;a0 1;a1 2;a2 0;r1 3;r1 3;r0 1;p0 5;p1 2;p2 5;").risk(), 16500);
         Checks.due("above what doubles give", Checks.told("i0;i1;i2;a0 1;r1 2;r1 2;r1 2;r2 3;r0 1;r0 3;r1 2;p0 9;p1 5;p2 8;").risk(), 10375);
+    }
+
+    static void promise14IsDividedByThePeriod() {
+        Checks.due("not times a part", Checks.told("i0;i1;a0 0;a1 1;r0 3;r0 1;r0 3;r2 2;r0 3;p0 7;p1 1;p2 1;").risk(), 22499);
+        Checks.due("not times a part", Checks.told("i0;i1;a0 0;a1 1;r1 0;r1 2;r1 0;r1 2;r2 2;r1 0;p0 6;p1 7;p2 3;").risk(), 12499);
     }
 
     static void promise14TheMostRisk() {
